@@ -49,6 +49,8 @@ public final class CoverTest {
         // Of several roads between two nodes the shortest counts, whichever way it is given.
         DrillPlanner y = Bench.planner("node a;node b;road a b 9;road b a 4;road a b 7;");
         BENCH.same("shortest of three roads", y.travelMinutes(0, 1) * 10 + y.travelMinutes(1, 0), 44);
+        DrillPlanner over = Bench.planner("node a;node b;node c;road b a 5;road a c 6;");
+        BENCH.same("over the first node", over.travelMinutes(1, 2), 11);
         StringBuilder chain = new StringBuilder();
         for (int i = 0; i < 12; i++) {
             chain.append("node n").append((char) ('a' + i)).append(';');
@@ -114,6 +116,11 @@ public final class CoverTest {
         DrillPlanner w = Bench.planner(ring + "engine e pump at s;engine f pump at s;engine g pump at u;engine h pump at u;"
                 + "engine i pump at u;");
         posts(w, 31, "0,3,2,2,1");
+        StringBuilder ten = new StringBuilder(ring);
+        for (int i = 0; i < 10; i++) {
+            ten.append("engine e").append((char) ('a' + i)).append(" pump at v;");
+        }
+        posts(Bench.planner(ten.toString()), 1023, "3,3,3,3,3,3,3,2,1,0");
         // The only station has no other one to take an engine from.
         posts(Bench.planner("node a;station s at a;engine e pump at s;"), 1, "0");
     }

@@ -44,6 +44,15 @@ public final class OrdersTest {
         late.setStart(0, 0);
         BENCH.same("none while another one is cancelled", late.earliestStart(1), -1);
         BENCH.same("cured", late.earliestStart(0), 23);
+        DrillPlanner last = Bench.planner(PUMP + "drill x at a lasts 2 needs 1 pump;drill y at a lasts 1 needs 1 pump after x;");
+        last.setStart(0, 21);
+        BENCH.same("23 is a start", last.earliestStart(1), 23);
+        last.setStart(0, 22);
+        BENCH.same("24 is none", last.earliestStart(1), -1);
+        // While the ladder is away, a pump moves to b; when it is back, no pump is there any more.
+        DrillPlanner back = Bench.planner("node a;node b;station s at a;station t at b;engine p pump at s;engine q pump at s;"
+                + "engine l ladder at t;street b within 0 pump;drill x at b lasts 1 needs 1 ladder;");
+        BENCH.same("uncovered only later", back.earliestStart(0), -1);
         DrillPlanner bare = Bench.planner(PUMP + "street a within 0;drill x at a lasts 1 needs 1 pump;");
         BENCH.same("never covered while away", bare.earliestStart(0), -1);
         for (int wrong : new int[] {-1, 2, Integer.MIN_VALUE, Integer.MAX_VALUE}) {

@@ -110,6 +110,8 @@ public final class TextTest {
         loads("slot 0060;node a;street a within 0;street a within 120 ladder;", 0);
         loads("hoses 40 dry 12 racks 12;", 0);
         loads("node slots;node abcdef;node a;", 0);
+        loads("node dode;node drila;node poses;node ump;node aresc;node hos;node dryy;node inside;", 0);
+        loads("node a;node b;node aa;node ab;node ba;node az;node z;node zz;node zzzzzz;node aaaaaa;node za;node aaa;", 0);
         loads("node a;node b;road a b 1;road a b 60;road b a 5;", 0);
         loads("node a;drill d at a lasts 8 needs 4 pump,4 ladder,4 rescue hose 40 from 23;"
                 + "drill e at a lasts 1 needs 1 rescue hose 0 after d from 0;"

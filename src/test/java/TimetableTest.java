@@ -141,6 +141,17 @@ public final class TimetableTest {
         DrillPlanner two = Bench.planner(three.replace('#', '2'));
         two.setStart(0, 0);
         BENCH.same("then the smallest number", two.drillEngines(0), 5);
+        DrillPlanner row = Bench.planner("node a;node b;node c;node d;road a b 1;road b c 1;road c d 1;station s at a;station t at b;"
+                + "station u at c;station v at d;engine e pump at v;engine f pump at u;engine g pump at v;engine h pump at t;"
+                + "engine i pump at u;engine j pump at s;drill x at a lasts 1 needs 1 pump;drill y at a lasts 1 needs 2 pump;"
+                + "drill z at a lasts 1 needs 1 pump;drill w at a lasts 1 needs 1 pump;drill k at a lasts 1 needs 1 pump;");
+        for (int drill = 0; drill < 5; drill++) {
+            row.setStart(drill, 0);
+        }
+        int[] taken = {32, 10, 16, 1, 4};
+        for (int drill = 0; drill < 5; drill++) {
+            BENCH.same("nearest of those that are left", row.drillEngines(drill), taken[drill]);
+        }
     }
 
     private static void promise29Hoses() {
@@ -321,6 +332,7 @@ public final class TimetableTest {
         BENCH.same("a cancelled drill has no end", x.finish(), 8);
         x.setStart(0, 0);
         x.setStart(2, 3);
+        BENCH.same("away from slot 0 on", x.awaySlots(0), 4);
         BENCH.same("busiest with two drills", x.busiestSlot(), 0);
         for (int wrong : new int[] {-1, 4, Integer.MIN_VALUE, Integer.MAX_VALUE}) {
             BENCH.throwsIndex("awaySlots", () -> x.awaySlots(wrong));
