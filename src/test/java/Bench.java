@@ -7,6 +7,10 @@ final class Bench {
     private int checks;
     private int wrong;
 
+    int checks() {
+        return checks;
+    }
+
     void same(String what, long got, long want) {
         checks++;
         if (got != want) {
